@@ -41,6 +41,7 @@ public final class NotEndedPromises {
         promise25Ties();
         promise26Lookers();
         promise27Count();
+        everythingFull();
         System.out.println(wrong == 0 ? "all promises are kept" : wrong + " answers are not as promised");
         if (wrong != 0) {
             System.exit(1);
@@ -126,6 +127,10 @@ public final class NotEndedPromises {
             due("feed " + i, x.feed(0x20202020, 0x20202020, 0x20202020, 0x20202020, 0x20202020), 20 * i);
         }
         due("a byte more than 120", x.feed(0, 0, 0, 0, 1), -1);
+        due("a byte more than 120", x.feed(0, 0, 0, 1, 0), -1);
+        due("a byte more than 120", x.feed(0, 0, 1, 0, 0), -1);
+        due("a byte more than 120", x.feed(0, 1, 0, 0, 0), -1);
+        due("a byte more than 120", x.feed(1, 0, 0, 0, 0), -1);
         due("it changed nothing", x.count(6), 120);
         due("no byte more", x.feed(0, 0, 0, 0, 0), 120);
         x.end(119);
@@ -308,6 +313,13 @@ public final class NotEndedPromises {
         z.person(60, 0, 1, false);
         z.know(1, 0);
         due("the other way too", z.run(0, 0, 1, 0, 0), 13);
+        z.person(20, 0, 2, false);
+        z.person(30, 0, 3, false);
+        z.know(1, 2);
+        z.know(3, 1);
+        due("several", z.run(0, 0, 1, 0, 0), 13);
+        due("several", z.run(0, 0, 1, 2, 0), 23);
+        due("several", z.run(0, 0, 1, 3, 0), 33);
     }
 
     private static void promise8Word() {
@@ -545,6 +557,11 @@ public final class NotEndedPromises {
         due("n, m, s in a house", x.run(4, 0, 1, 2, 0), 23);
         due("it counts as it goes", x.run(5, 0, 1, 2, 0), 11);
         due("n is 0 at home", x.run(5, 0, 9, 2, 0), 11);
+        NotEnded z = withLaw("y:s*7+m+d;g:100");
+        z.person(1, 0, 1, false);
+        z.person(2, 0, 1, true);
+        due("m and s in a house, d without a word", z.run(0, 0, 1, 0, 0), 10);
+        due("m and s are 0 at home", z.run(0, 0, 9, 0, 0), 10);
     }
 
     private static void promise10Refusals() {
@@ -744,6 +761,14 @@ public final class NotEndedPromises {
         due("only what is behind y tells", z.books(0, 0, 0), 0);
         due("what gave up does not", z.books(1, 0, 0), 2);
         due("a mean above all's", z.books(1, 0, 1), 55 - 27);
+        NotEnded w = withLaw("y:0");
+        w.person(50, 0, 0, false);
+        due("the first one's house", w.books(0, 0, 0), 1);
+        w.person(49, 0, 1, false);
+        due("means are cut", w.books(0, 0, 1), 50 - 49);
+        w.person(40, 0, 1, false);
+        w.person(33, 0, 0, false);
+        due("each by itself", w.books(0, 0, 1), 41 - 43);
     }
 
     private static void promise18Odds() {
@@ -957,6 +982,14 @@ public final class NotEndedPromises {
         m.act(0, 1, 1, 1);
         m.act(0, 0, 30, 1);
         due("its own house will do", m.help(0, 0, 0, 0), 2);
+        NotEnded just = withLaw("y:i=0?p+n-50");
+        just.person(50, 21, 0, false);
+        just.person(50, 0, 3, true);
+        just.act(0, 0, 1, 1);
+        just.act(0, 1, 3, 1);
+        due("less than 20, not 20", just.help(0, 0, 0, 0), -1);
+        just.act(0, 0, 1, 1);
+        due("both of them, no house", just.help(0, 0, 0, 0), 5);
         NotEnded last = withLaw("y:s=1?0-9");
         last.person(50, 0, 0, false);
         last.person(50, 0, 1, true);
@@ -1005,6 +1038,20 @@ public final class NotEndedPromises {
         w.person(99, 0, 0, true);
         w.person(20, 0, 0, true);
         due("the lower ones that can be there", w.lookers(0, 0), 2 + 8);
+        NotEnded h = withLaw("y:s>0?0-1");
+        h.person(98, 0, 0, false);
+        h.person(50, 0, 0, true);
+        h.person(97, 0, 1, false);
+        h.person(50, 0, 1, true);
+        h.person(98, 0, 2, false);
+        h.person(50, 0, 2, true);
+        h.person(49, 0, 3, false);
+        h.person(50, 0, 3, true);
+        due("50 or more", h.lookers(0, 0), 2 + 32 + 128);
+        NotEnded e = withLaw("y:s>0&v>50?0-1");
+        e.person(60, 0, 0, false);
+        e.person(50, 0, 0, true);
+        due("50 itself", e.lookers(0, 0), 2);
     }
 
     private static void promise27Count() {
@@ -1028,5 +1075,67 @@ public final class NotEndedPromises {
         }
         due("count of others", x.count(7), -1);
         due("count of others", x.count(-1), -1);
+    }
+
+    /** Every row at its end: no call may reach behind it. */
+    private static void everythingFull() {
+        NotEnded x = new NotEnded();
+        for (int j = 0; j < 10; j++) {
+            due("person", x.person(55 + j, 50 - j, 0, j % 3 == 2), j);
+        }
+        for (int j = 0; j < 10; j++) {
+            for (int k = 0; k < 10; k++) {
+                due("know", x.know(j, k), j != k);
+            }
+        }
+        for (int i = 0; i < 4; i++) {
+            x.word(i);
+        }
+        for (int i = 0; i < 6; i++) {
+            due("law", law(x, "y:0-1;g:[v-50]*" + i + ";x:" + i), i);
+        }
+        for (int i = 0; i < 8; i++) {
+            due("turning", turning(x, "w:a+b+c+d+e>" + i + "?1"), i);
+        }
+        for (int i = 0; i < 20; i++) {
+            due("note", x.note(9, 48, 1, i % 2 - 1, 0), i + 1);
+        }
+        for (int i = 0; i < 6; i++) {
+            due("act", x.act(9, 2, i, 50), i);
+        }
+        for (int j = 0; j < 10; j++) {
+            due("say", x.say(j, 7), true);
+        }
+        due("letters of the last", worth(x, 0, 0, 9), -1);
+        // the last one holds 64 and loses one an hour, and its nine are still in their house
+        due("run", x.run(0, 0, 48, 9, 0), 16);
+        due("place", x.run(0, 0, 48, 9, 1), 0);
+        due("since when", x.run(0, 0, 48, 9, 2), 0);
+        due("left", x.all(0, 0, 48, 0), 0);
+        due("given up", x.all(0, 0, 48, 1), 1 + 2 + 8 + 16 + 64 + 128 + 512);
+        due("without", x.without(0, 0, 511, 9), 16);
+        due("did", x.did(0, 0, 9), 0);
+        due("lean", x.lean(0, 0, 9, 0), 0);
+        due("lean", x.lean(0, 0, 9, 1), 0);
+        due("fits", x.fits(0, false), 0);
+        due("fits alone", x.fits(0, true), 63);
+        due("books", x.books(0, 0, 0), 1);
+        due("kept", x.books(0, 0, 1), 0);
+        due("odds", x.odds(0, 0, 0, 8), 0);
+        due("odds", x.odds(0, 0, 47, 0), 100_000_000_000_000L);
+        due("stayed", x.stayed(0, 0, 31), 0);
+        due("help", x.help(0, 0, 9, 0), 0);
+        due("lookers", x.lookers(0, 0), 4 + 32 + 256);
+        due("bars", x.bars(3), 26);
+        due("bolder", x.bolder(7, 0), 1);
+        due("a text of 30 clauses", x.text(0), -1);
+        NotEnded z = new NotEnded();
+        due("a text of 30 clauses", law(z, times("g:1;", 29) + "y:7"), 0);
+        due("a text of 59 numbers", law(z, "y:" + times("1+", 58) + "1"), 1);
+        due("a text as deep as may be", law(z, "y:1=2|1=1&(1=2|1=1&(1=2|1=1&(1+1*[1+1*[1+1*[1+1*1]]]=5)))?6"), 2);
+        z.person(0, 0, 0, false);
+        due("the last clause", worth(z, 0, 0, 0), 7);
+        due("all numbers", worth(z, 1, 0, 0), 59);
+        due("all that is open", worth(z, 2, 0, 0), 6);
     }
 }
