@@ -963,12 +963,12 @@ public final class NotEndedPromises {
         due("the lower acts", z.help(0, 0, 0, 0), 3);
         NotEnded w = withLaw("y:i=0?p*2-99");
         w.person(50, 90, 0, false);
-        w.act(0, 0, 40, 3);
-        w.act(0, 0, 25, 1);
-        w.act(0, 0, 25, 1);
-        w.act(0, 0, 20, 3);
-        // 0 with 3, or 0 with 1 or 2; 0 with 1 costs 4, and so on: the least that gives back 60
-        due("the lower where two first differ", w.help(0, 0, 0, 0), 3);
+        w.act(0, 0, 40, 4);
+        w.act(0, 0, 30, 3);
+        w.act(0, 0, 30, 3);
+        w.act(0, 0, 16, 2);
+        // 56 must be given back: 0 with 3 and 1 with 2 do it at the same cost
+        due("the lower where two first differ", w.help(0, 0, 0, 0), 1 + 8);
         NotEnded h = withLaw("y:n*50-20");
         h.person(50, 0, 0, false);
         h.person(50, 0, 1, true);
