@@ -597,20 +597,17 @@ public final class NotEnded {
                 return false;
             }
             int start = written;
-            boolean conditioned = look() == '!' || look() == '(';
-            if (!conditioned) {
+            boolean isCondition = look() == '!' || look() == '(';
+            if (!isCondition) {
                 if (!readSum(0)) {
                     return false;
                 }
                 // only what follows the sum tells whether it opens a condition or is the clause's own
-                conditioned = isComparison(look());
-                if (!conditioned) {
+                if (!isComparison(look())) {
                     return keepClause(label, start, start);
                 }
-                if (!readCondition(0, true)) {
-                    return false;
-                }
-            } else if (!readCondition(0, false)) {
+            }
+            if (!readCondition(0, !isCondition)) {
                 return false;
             }
             int sum = written;
