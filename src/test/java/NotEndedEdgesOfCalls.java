@@ -46,6 +46,7 @@ public final class NotEndedEdgesOfCalls {
         askingChangesNothing();
         whatIsTakenIsSeen();
         manyCalls();
+        anyArguments();
         objectsAreApart();
         Bench.close();
     }
@@ -662,6 +663,61 @@ public final class NotEndedEdgesOfCalls {
             }
         }
         Bench.due("the 512th", x.run(0, 0, 48, 0, 0), 51);
+    }
+
+    /** No call may throw anything but what is promised, whatever comes together. */
+    private static void anyArguments() {
+        Bench.sentence("A call of the face throws exactly what and where the document says, and nothing else");
+        int[] edges = {Integer.MIN_VALUE, -1001, -1000, -2, -1, 0, 1, 2, 3, 4, 5, 6, 7, 8, 9, 10, 19, 20, 31, 32, 47,
+            48, 49, 50, 51, 99, 100, 101, 120, 121, 1023, 1024, Integer.MAX_VALUE};
+        long[] seeds = {Long.MIN_VALUE, -1, 0, 1, Long.MAX_VALUE};
+        for (Bench.Maker maker : new Bench.Maker[] {NotEnded::new, Bench::empty, Bench::some, Bench::full}) {
+            for (int round = 0; round < 60; round++) {
+                NotEnded x = maker.make();
+                for (int call = 0; call < 120; call++) {
+                    int draw = round * 120 + call;
+                    long next = Bench.drawn(draw, 3);
+                    int[] a = new int[5];
+                    for (int i = 0; i < 5; i++) {
+                        a[i] = edges[(int) ((next * 7 + Bench.drawn(draw, i + 4)) % edges.length)];
+                    }
+                    anyCall(x, call % 27, a, seeds[draw % 5]);
+                }
+                Bench.due("it still counts", x.count(2) >= 0 && x.count(2) <= 10, true);
+            }
+        }
+    }
+
+    private static void anyCall(NotEnded x, int which, int[] a, long seed) {
+        switch (which) {
+            case 0 -> x.feed(a[0], a[1], a[2], a[3], a[4]);
+            case 1 -> x.end(a[0]);
+            case 2 -> x.fault(a[0]);
+            case 3 -> x.text(a[0]);
+            case 4 -> x.person(a[0], a[1], a[2], a[3] < 0);
+            case 5 -> x.know(a[0], a[1]);
+            case 6 -> x.word(a[0]);
+            case 7 -> Bench.worth(x, a[0], a[1], a[2]);
+            case 8 -> x.run(a[0], seed, a[1], a[2], a[3]);
+            case 9 -> x.all(a[0], seed, a[1], a[2]);
+            case 10 -> x.without(a[0], seed, a[1], a[2]);
+            case 11 -> x.did(a[0], seed, a[1]);
+            case 12 -> x.lean(a[0], seed, a[1], a[2]);
+            case 13 -> x.note(a[0], a[1], a[2], a[3], a[4]);
+            case 14 -> x.fits(seed, a[0] < 0);
+            case 15 -> x.books(a[0], seed, a[1]);
+            case 16 -> x.odds(a[0], seed, a[1], a[2]);
+            case 17 -> x.lets(a[0], a[1]);
+            case 18 -> x.bars(a[0]);
+            case 19 -> x.bolder(a[0], a[1]);
+            case 20 -> x.say(a[0], a[1]);
+            case 21 -> x.stayed(a[0], seed, a[1]);
+            case 22 -> x.act(a[0], a[1], a[2], a[3]);
+            case 23 -> x.help(a[0], seed, a[1], a[2]);
+            case 24 -> x.lookers(a[0], seed);
+            case 25 -> x.lookers(Math.floorMod(a[0], 6), seed);
+            default -> x.count(a[0]);
+        }
     }
 
     private static void objectsAreApart() {

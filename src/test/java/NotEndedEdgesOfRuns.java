@@ -34,6 +34,7 @@ public final class NotEndedEdgesOfRuns {
         did();
         leanOnPutIn();
         leanOnThoseNear();
+        fortyEightHours();
         Bench.close();
     }
 
@@ -578,6 +579,28 @@ public final class NotEndedEdgesOfRuns {
             Bench.due("both draw, seed " + seed, z.run(0, seed, 48, 0, 0), both);
             Bench.due("only the second draws, seed " + seed, z.lean(0, seed, 0, 1), both - alone);
         }
+    }
+
+    /** What happens in the last hour counts, and it happens once. */
+    private static void fortyEightHours() {
+        Bench.sentence("RUNS by an asking are of 48 HOURS, where nothing else is said");
+        NotEnded x = Bench.withLaws("y:1", "y:i=47?0-p", "y:i=47?n*10", "y:i=47?s*10", "y:i=47?10");
+        Bench.turning(x, "w:1");
+        x.person(40, 30, 0, false);
+        x.person(0, 0, 0, true);
+        x.say(0, 0);
+        Bench.due("without: 48 times one", x.without(0, 0, 2, 0), 88);
+        Bench.due("without: the last hour", x.without(2, 0, 0, 0), 50);
+        Bench.due("did", x.did(3, 0, 0), 10);
+        Bench.due("lean on what it put in", x.lean(1, 0, 0, 0), -30);
+        Bench.due("lean on those near", x.lean(2, 0, 0, 1), 10);
+        Bench.due("books", x.books(4, 0, 0), 1);
+        Bench.due("stayed", x.stayed(4, 0, 0), 1);
+        Bench.due("help", x.help(1, 0, 0, 0), 0);
+        Bench.due("lookers: the last hour makes it", x.lookers(3, 0), 0);
+        Bench.due("lookers: it is made without", x.lookers(4, 0), 2);
+        x.note(0, 48, 0, 88, 0);
+        Bench.due("fits", x.fits(0, false), 1);
     }
 
     /** In how many hours one is in its house as they begin that draws every so manieth number. */
