@@ -103,13 +103,32 @@ public final class NotEndedAgainstPlain {
         return text.length() <= 120 ? text.toString() : text(sort);
     }
 
-    /** Laws under which much happens, which drawn texts seldom are. */
+    private String smallSum() {
+        String[] parts = {"1", "2", "3", "4", "5", "[m-v]/7", "[v-50]/9", "[50-v]/9", "p/15", "p/30", "n", "n/2", "s",
+            "s*2", "u", "u*2", "d/5", "i/12", "v/25", "m/25"};
+        StringBuilder text = new StringBuilder(random.nextBoolean() ? "0" : parts[random.nextInt(parts.length)]);
+        for (int i = random.nextInt(3); i > 0; i--) {
+            text.append("+-".charAt(random.nextInt(2))).append(parts[random.nextInt(parts.length)]);
+        }
+        return text.toString();
+    }
+
+    private String oftenChanging() {
+        String[] conditions = {"v<50", "v>49", "v<20", "n=0", "n>2&s=0", "s>0", "!s=0", "(s>0|u=1)", "u>1", "d>3",
+            "i<9", "i>20", "m>v", "p>40"};
+        return conditions[random.nextInt(conditions.length)] + "?";
+    }
+
+    /** Laws under which much happens, which drawn texts seldom are: what is held moves slowly, and some go. */
     private String livelyLaw() {
-        String[] laws = {
-            "y:[m-v]/9+p/20;g:3;x:2", "y:u>0?0-d;y:1;g:v<30?20;x:v/10", "y:s>0?0-3;y:2-n;g:n*2;x:p/9",
-            "y:p/10-s*4;g:s*3+u;x:1+u", "y:v>49?1;y:0-1;g:5+i/9;x:v-55", "y:m>v?2;y:0-2;g:v<20?50;g:2;x:4-s",
-            "y:[p-30]/9;g:50;x:10", "y:n=0?0-2;y:s-1;g:1;x:0-3"};
-        return laws[random.nextInt(laws.length)];
+        StringBuilder text = new StringBuilder();
+        for (String label : new String[] {"y:", "y:", "g:", "x:"}) {
+            if (random.nextInt(9) > 0) {
+                text.append(text.isEmpty() ? "" : ";").append(label);
+                text.append(random.nextInt(3) == 0 ? oftenChanging() : "").append(smallSum());
+            }
+        }
+        return text.isEmpty() || text.length() > 120 ? livelyLaw() : text.toString();
     }
 
     private String spoiled(String text) {
@@ -202,7 +221,7 @@ public final class NotEndedAgainstPlain {
             case 0, 1 -> {
                 int sort = random.nextInt(2);
                 due("end(0)", real.end(0) ? 1 : 0, plain.end(0) ? 1 : 0);
-                String text = sort == 0 && random.nextInt(2) == 0 ? livelyLaw() : text(sort);
+                String text = sort == 0 && random.nextInt(4) > 0 ? livelyLaw() : text(sort);
                 feedText(random.nextInt(5) == 0 ? spoiled(text) : text);
                 due("fault(" + sort + ")", real.fault(sort), plain.fault(sort));
                 due("text(" + sort + ")", real.text(sort), plain.text(sort));
